@@ -30,6 +30,7 @@ public final class PromiseTest {
         runStopsAtARefusal();
         runThrows();
         keepAndGoBack();
+        cutAnewAndBack();
         undoRestores();
         undoRestoresEachMethod();
         refusalsAreSavedAndThrowsAreNot();
@@ -720,6 +721,33 @@ public final class PromiseTest {
         c.due("undo does not empty a slot", y.goBack(0), 0);
     }
 
+    /** A track that is cut anew differs in each property; going back and undoing bring the old one. */
+    private static void cutAnewAndBack() {
+        WaxCopies x = new WaxCopies();
+        for (int i = 0; i < 6; i++) {
+            x.speak(4 + i, 1);
+        }
+        x.speak(20, 7);
+        x.copy(20, 0, 3);
+        x.play(0);
+        // the mother: 75 less the bluntness 1, flutter 2 at 40; the copy: 4 for the lever, 3 for 87, flutter 4 at 30
+        int[] old = {9, 60, 6, 1, 20, 63, 1};
+        track("before", x, 0, old);
+        x.keep(1);
+        x.wind();
+        x.shave(0);
+        x.speak(0, 2);
+        track("cut anew", x, 0, 2, 45, 0, 0, -1, 45, 0);
+        x.goBack(1);
+        track("back", x, 0, old);
+        x.undo();
+        track("undone", x, 0, 2, 45, 0, 0, -1, 45, 0);
+        x.undo();
+        x.undo();
+        track("undone thrice", x, 0, old);
+        c.due("spring", x.count(1), 100);
+    }
+
     // promise 16
     private static void undoRestores() {
         WaxCopies x = new WaxCopies();
@@ -1004,6 +1032,21 @@ public final class PromiseTest {
         c.due("without spring and layers", x.chain(4, 5, 1), before);
         chainsThatBlunt();
         chainsOfDull();
+        chainsForgetEarlierOnes();
+    }
+
+    /** Asked again and again, of tracks of all depths, at one sharpness: nothing of an answer stays. */
+    private static void chainsForgetEarlierOnes() {
+        WaxCopies x = new WaxCopies();
+        for (int track = 0; track < 9; track++) {
+            x.speak(track, 9 - track);
+        }
+        for (int copies = 5; copies >= 1; copies--) {
+            for (int track = 0; track < 9; track++) {
+                String what = "chain of " + copies + " of " + track + " after others";
+                c.due(what, x.chain(track, copies, 0), x.chain(track, copies, 1));
+            }
+        }
     }
 
     /** Where the lever 3, the best for one copy, is not the best for several: it cuts deeper. */
@@ -1125,6 +1168,13 @@ public final class PromiseTest {
         z.play(2);
         z.play(2);
         c.due("with clearness 0", z.clearest(), 2);
+        WaxCopies first = new WaxCopies();
+        first.speak(0, 9);
+        first.speak(23, 8);
+        c.due("the first track", first.clearest(), 0);
+        first.set(20);
+        first.play(0);
+        c.due("the last track", first.clearest(), 23);
     }
 
     // promise 25
@@ -1264,6 +1314,25 @@ public final class PromiseTest {
         int states = y.count(12);
         y.digest();
         c.due("digest saves nothing", y.count(12), states);
+        digestOfWholeMeans();
+    }
+
+    /** The bits of 1, 2, 4 and 8 stand where an exponent ends; 4 and 5 layers stand around whyNot with 5. */
+    private static void digestOfWholeMeans() {
+        for (int depth = 1; depth <= 9; depth++) {
+            WaxCopies x = new WaxCopies();
+            x.renew(1, 4);
+            x.renew(2, 5);
+            x.speak(9, depth > 5 ? 5 : depth);
+            x.renew(0, 3);
+            x.speak(12, depth);
+            x.speak(1, 3);
+            c.due("9 onto 0, and 0 differs from 1", x.digest(), listed(x, 0, 0, ""));
+            x.renew(0, 60);
+            x.renew(2, 60);
+            c.dueShare("mean " + depth, x.meanDepth(), depth);
+            c.due("mean " + depth, x.digest(), listed(x, 0, 0, ""));
+        }
     }
 
     private static long listed(WaxCopies x, int slot0, int slot1, String buffer) {
