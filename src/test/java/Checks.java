@@ -5,11 +5,21 @@ final class Checks {
     }
 
     private final String name;
+    private String place = "";
     private int made = 0;
     private int wrong = 0;
 
     Checks(String name) {
         this.name = name;
+    }
+
+    /** What is told from here on is told with this place. */
+    void within(String where) {
+        place = " [" + where + "]";
+    }
+
+    int made() {
+        return made;
     }
 
     void due(String what, long got, long want) {
@@ -27,6 +37,13 @@ final class Checks {
         }
     }
 
+    void dueText(String what, String got, String want) {
+        made++;
+        if (!got.equals(want)) {
+            tell(what + " is\n  " + got + "\n  due is\n  " + want);
+        }
+    }
+
     void dueThrow(String what, Class<? extends RuntimeException> want, Call call) {
         made++;
         try {
@@ -39,10 +56,19 @@ final class Checks {
         }
     }
 
+    void dueNoThrow(String what, Call call) {
+        made++;
+        try {
+            call.answer();
+        } catch (RuntimeException e) {
+            tell(what + " threw " + e + ", due is an answer");
+        }
+    }
+
     void tell(String text) {
         wrong++;
         if (wrong <= 40) {
-            System.out.println(name + ": " + text);
+            System.out.println(name + place + ": " + text);
         }
     }
 

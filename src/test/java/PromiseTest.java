@@ -52,9 +52,7 @@ public final class PromiseTest {
     }
 
     private static void type(WaxCopies x, String text) {
-        for (int i = 0; i < text.length(); i++) {
-            x.append(text.charAt(i));
-        }
+        Situations.type(x, text);
     }
 
     private static void track(String what, WaxCopies x, int track, int... due) {
@@ -1275,27 +1273,27 @@ public final class PromiseTest {
     // promise 28
     private static void digestIsAsTheListTells() {
         WaxCopies x = new WaxCopies();
-        c.due("new", x.digest(), listed(x, 0, 0, ""));
+        c.due("new", x.digest(), Situations.hashed(Situations.listed(x, 0, 0, "")));
         type(x, "sa0=9");
-        c.due("with a text", x.digest(), listed(x, 0, 0, "sa0=9"));
+        c.due("with a text", x.digest(), Situations.hashed(Situations.listed(x, 0, 0, "sa0=9")));
         x.run();
-        c.due("after run", x.digest(), listed(x, 0, 0, ""));
+        c.due("after run", x.digest(), Situations.hashed(Situations.listed(x, 0, 0, "")));
         x.keep(1);
-        c.due("slot 1", x.digest(), listed(x, 0, 1, ""));
+        c.due("slot 1", x.digest(), Situations.hashed(Situations.listed(x, 0, 1, "")));
         x.copy(0, 4, 2);
         x.keep(0);
-        c.due("both slots", x.digest(), listed(x, 1, 1, ""));
+        c.due("both slots", x.digest(), Situations.hashed(Situations.listed(x, 1, 1, "")));
         x.copy(4, 9, 2);
         x.play(4);
         x.speak(17, 2);
         x.shave(0);
         x.set(20);
         type(x, "~!");
-        c.due("more", x.digest(), listed(x, 1, 1, "~!"));
+        c.due("more", x.digest(), Situations.hashed(Situations.listed(x, 1, 1, "~!")));
         for (int i = 0; i < 4; i++) {
             x.play(17);
         }
-        c.due("worn down", x.digest(), listed(x, 1, 1, "~!"));
+        c.due("worn down", x.digest(), Situations.hashed(Situations.listed(x, 1, 1, "~!")));
         WaxCopies y = new WaxCopies();
         y.set(20);
         y.speak(0, 1);
@@ -1309,7 +1307,7 @@ public final class PromiseTest {
             y.copy(0, track, 1);
             y.wind();
         }
-        c.due("the smallest share", y.digest(), listed(y, 0, 0, ""));
+        c.due("the smallest share", y.digest(), Situations.hashed(Situations.listed(y, 0, 0, "")));
         c.dueShare("the smallest share", y.clearShare(), 1.0 / 600.0);
         int states = y.count(12);
         y.digest();
@@ -1327,52 +1325,11 @@ public final class PromiseTest {
             x.renew(0, 3);
             x.speak(12, depth);
             x.speak(1, 3);
-            c.due("9 onto 0, and 0 differs from 1", x.digest(), listed(x, 0, 0, ""));
+            c.due("9 onto 0, and 0 differs from 1", x.digest(), Situations.hashed(Situations.listed(x, 0, 0, "")));
             x.renew(0, 60);
             x.renew(2, 60);
             c.dueShare("mean " + depth, x.meanDepth(), depth);
-            c.due("mean " + depth, x.digest(), listed(x, 0, 0, ""));
+            c.due("mean " + depth, x.digest(), Situations.hashed(Situations.listed(x, 0, 0, "")));
         }
-    }
-
-    private static long listed(WaxCopies x, int slot0, int slot1, String buffer) {
-        java.util.List<Long> values = new java.util.ArrayList<>();
-        for (int i = 0; i <= 12; i++) {
-            values.add((long) x.count(i));
-        }
-        values.add((long) x.setting());
-        for (int track = 0; track < 24; track++) {
-            for (int i = 0; i <= 6; i++) {
-                values.add((long) x.trackOf(track, i));
-            }
-            values.add((long) x.whyNot(track, 5));
-            values.add((long) x.daughters(track));
-            values.add((long) x.chain(track, 1, 0));
-            values.add((long) x.chain(track, 1, 1));
-            values.add((long) x.chain(track, 3, 0));
-            values.add((long) x.chain(track, 3, 1));
-        }
-        for (int cylinder = 0; cylinder < 6; cylinder++) {
-            for (int i = 0; i <= 4; i++) {
-                values.add((long) x.cylinderOf(cylinder, i));
-            }
-        }
-        values.add((long) x.ifCopied(0, 4, 2));
-        values.add((long) x.ifCopied(4, 9, 2));
-        values.add((long) x.ifCopied(9, 0, 2));
-        values.add((long) x.clearest());
-        values.add((long) Float.floatToIntBits(x.meanDepth()));
-        values.add(Double.doubleToLongBits(x.clearShare()));
-        values.add((long) slot0);
-        values.add((long) slot1);
-        values.add((long) buffer.length());
-        for (int i = 0; i < buffer.length(); i++) {
-            values.add((long) buffer.charAt(i));
-        }
-        long hash = 3559;
-        for (long value : values) {
-            hash = 31 * hash + value;
-        }
-        return hash;
     }
 }
