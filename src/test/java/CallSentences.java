@@ -428,13 +428,13 @@ final class CallSentences {
         s.test("Returns the index of the first character that is a syntax error", c -> {
             c.due("the first", Situations.typed("q").firstError(), 0);
             c.due("the second", Situations.typed("wq").firstError(), 1);
-            c.due("the last of 60", Situations.typed("w;w;w;w;w;w;w;w;w;w;w;w;w;w;w;w;w;w;w;w;w;w;w;w;w;w;w;w;w;w=").firstError(), 59);
+            c.due("the last of 60", Situations.typed("w;".repeat(29) + "w=").firstError(), 59);
         });
         s.test("the length of the buffer if there is none.", c -> {
             c.due("empty", Situations.typed("").firstError(), 0);
             c.due("one", Situations.typed("c").firstError(), 1);
             c.due("whole orders", Situations.typed("cb1>f3*3;xa").firstError(), 11);
-            c.due("60", Situations.typed("w;w;w;w;w;w;w;w;w;w;w;w;w;w;w;w;w;w;w;w;w;w;w;w;w;w;w;w;w;w;").firstError(), 60);
+            c.due("60", Situations.typed("w;".repeat(30)).firstError(), 60);
         });
     }
 
@@ -497,7 +497,7 @@ final class CallSentences {
             c.due("none of two", Situations.typed("pa0;w").run(), 0);
             c.due("one of two", Situations.typed("w;pa0").run(), 1);
             c.due("one", Situations.typed("w").run(), 1);
-            c.due("as many as the buffer can hold", Situations.typed("w;w;w;w;w;w;w;w;w;w;w;w;w;w;w;w;w;w;w;w;w;w;w;w;w;w;w;w;w;w").run(), 30);
+            c.due("as many as the buffer can hold", Situations.typed("w;".repeat(29) + "w").run(), 30);
             WaxCopies x = Situations.spoken(0, 1);
             x.set(20);
             Situations.type(x, "pa0;pa0;pa0;pa0");
@@ -505,7 +505,7 @@ final class CallSentences {
         });
         s.test("Throws `IllegalArgumentException` if the buffer does not tell orders as a text", c -> {
             String[] texts = {"", "s", "sa0=", "ca0>b0*", "p", "pa", "x", ";", "w;", ";w", "w;;w", "ww", "q", "w;q", "sa0=0",
-                "sa0=10", "ca0>b0*4", "pa4", "pg0", "xg", "xa0", "W", "w;w;w;w;w;w;w;w;w;w;w;w;w;w;w;w;w;w;w;w;w;w;w;w;w;w;w;w;w;w;"};
+                "sa0=10", "ca0>b0*4", "pa4", "pg0", "xg", "xa0", "W", "w;".repeat(30)};
             for (String text : texts) {
                 WaxCopies x = Situations.typed(text);
                 String before = Situations.picture(x);

@@ -142,6 +142,7 @@ final class ShareSentences {
                 }, copies));
             }
             c.due("asked again", x.chain(0, 5, 0), x.chain(0, 5, 0));
+            oneAskingLeavesNothingToTheNext(c);
         });
         s.test("1: told by trying all levers", c -> {
             WaxCopies x = Situations.spoken(0, 4);
@@ -149,6 +150,21 @@ final class ShareSentences {
                 c.due("of 4, " + copies, x.chain(0, copies, 1), clearestByDoing(() -> Situations.spoken(0, 4), copies));
             }
         });
+    }
+
+    /** A clear, deep track is asked for ahead of a dull one, which is asked for at each sharpness that copies of the first one have. */
+    private static void oneAskingLeavesNothingToTheNext(Checks c) {
+        for (int sharpness = 99; sharpness >= 55; sharpness--) {
+            for (int copies = 1; copies <= 5; copies++) {
+                WaxCopies x = Situations.spoken(0, 9);
+                Situations.speakAsClear(x, 1, 30);
+                x.chain(0, 5, 0);
+                x.chain(0, copies, 0);
+                Situations.machineAt(x, sharpness, 100);
+                int due = x.chain(1, copies, 1);
+                c.due("at " + sharpness + ", " + copies, x.chain(1, copies, 0), due);
+            }
+        }
     }
 
     private static void chainReturns(Sentences s) {

@@ -386,7 +386,8 @@ final class TermSentences {
     }
 
     /** The depth by the mother's depth, then by the lever. */
-    private static final int[][] DEPTHS = {{1, 1, 1}, {1, 2, 3}, {1, 3, 4}, {2, 4, 6}, {2, 5, 7}, {3, 6, 9}, {3, 7, 9}, {4, 8, 9}, {4, 9, 9}};
+    private static final int[][] DEPTHS = {{1, 1, 1}, {1, 2, 3}, {1, 3, 4}, {2, 4, 6}, {2, 5, 7}, {3, 6, 9}, {3, 7, 9},
+        {4, 8, 9}, {4, 9, 9}};
 
     private static void copyingRefusedFor(Sentences s) {
         s.test("4: the cylinder of the other one has fewer layers than the depth tells", c -> {
@@ -497,7 +498,8 @@ final class TermSentences {
             c.due("at 0", x.play(0), 2);
         });
         s.test("Otherwise its clearness becomes less by setting 0, but at least 0", c -> {
-            int[][] rows = {{21, 20, 1}, {20, 20, 0}, {19, 20, 0}, {4, 3, 1}, {3, 3, 0}, {2, 3, 0}, {0, 3, 0}, {0, 0, 0}, {1, 0, 1}, {85, 1, 84}};
+            int[][] rows = {{21, 20, 1}, {20, 20, 0}, {19, 20, 0}, {4, 3, 1}, {3, 3, 0}, {2, 3, 0}, {0, 3, 0}, {0, 0, 0},
+                {1, 0, 1}, {85, 1, 84}};
             for (int[] row : rows) {
                 WaxCopies x = new WaxCopies();
                 Situations.speakAsClear(x, 0, row[0]);

@@ -65,7 +65,7 @@ final class TextSentences {
             runThrows(c, "");
             runs(c, "w", 1);
             runs(c, "w;w", 2);
-            runs(c, "w;w;w;w;w;w;w;w;w;w;w;w;w;w;w;w;w;w;w;w;w;w;w;w;w;w;w;w;w;w", 30);
+            runs(c, "w;".repeat(29) + "w", 30);
             runThrows(c, ";");
             runThrows(c, ";w");
             runThrows(c, "w;");
@@ -180,23 +180,54 @@ final class TextSentences {
         });
         s.test("a snapshot is all but the buffer, the slots and the saved states.", c -> {
             WaxCopies x = Situations.used();
-            x.undo();
-            x.undo();
+            for (int i = 0; i < 4; i++) {
+                x.undo();
+            }
+            x.clearBuffer();
             x.keep(0);
             String kept = Situations.state(x);
+            long[] numbers = new long[12];
+            for (int what = 0; what < 12; what++) {
+                numbers[what] = x.count(what);
+            }
             x.set(9);
+            x.renew(3, 50);
+            Situations.type(x, "pa0;sf0=3;cf0>a1*3;xb;pa2");
+            x.run();
+            for (int what = 0; what < 12; what++) {
+                c.due("count(" + what + ") is another (1 yes, 0 no)", x.count(what) != numbers[what] ? 1 : 0, 1);
+            }
             x.keep(1);
-            c.due("saved states", x.count(12), 5);
-            Situations.type(x, ";w");
-            x.speak(20, 3);
-            x.copy(20, 1, 3);
+            Situations.type(x, "pa0");
             x.goBack(0);
             c.dueText("all is back", Situations.state(x), kept);
             c.due("the saved states are not, and one more is there", x.count(12), 6);
-            c.due("the buffer is not", x.firstError(), 9);
+            c.due("the buffer is not", x.clearBuffer(), 3);
             x.goBack(1);
             c.due("the other slot is not", x.setting(), 9);
+            eachPropertyOfATrackIsBack(c);
         });
+    }
+
+    /** A track that is cut anew differs from the old one in each property. */
+    private static void eachPropertyOfATrackIsBack(Checks c) {
+        WaxCopies x = Situations.atMachine(99, 30);
+        x.speak(20, 7);
+        x.wind();
+        x.copy(20, 0, 3);
+        x.play(0);
+        x.keep(1);
+        String kept = Situations.state(x);
+        x.shave(0);
+        x.speak(0, 2);
+        for (int what = 0; what < 7; what++) {
+            int anew = x.trackOf(0, what);
+            x.goBack(1);
+            c.due("property " + what + " differs (1 yes, 0 no)", x.trackOf(0, what) != anew ? 1 : 0, 1);
+            c.dueText("gone back", Situations.state(x), kept);
+            x.undo();
+            c.due("undone, property " + what, x.trackOf(0, what), anew);
+        }
     }
 
     private static void savedStates(Sentences s) {
@@ -294,7 +325,7 @@ final class TextSentences {
                 leavesAll(c, "call " + i, calls[i], "");
             }
             leavesAll(c, "run of a half", WaxCopies::run, ";s");
-            leavesAll(c, "append behind the end", x -> x.append('w'), ";w;w;w;w;w;w;w;w;w;w;w;w;w;w;w;w;w;w;w;w;w;w;w;w;w;w;");
+            leavesAll(c, "append behind the end", x -> x.append('w'), ";" + "w;".repeat(26));
             WaxCopies x = Situations.typed("pa");
             String before = Situations.picture(x);
             c.dueThrow("undo of nothing", Situations.STATE, () -> x.undo());
@@ -343,7 +374,7 @@ final class TextSentences {
             }
             WaxCopies empty = new WaxCopies();
             c.dueThrow("goBack to no slot", Situations.ARGUMENT, () -> empty.goBack(2));
-            WaxCopies full = Situations.typed("w;w;w;w;w;w;w;w;w;w;w;w;w;w;w;w;w;w;w;w;w;w;w;w;w;w;w;w;w;w;");
+            WaxCopies full = Situations.typed("w;".repeat(30));
             c.dueThrow("append of no character", Situations.ARGUMENT, () -> full.append(127));
         });
     }
